@@ -19,6 +19,7 @@ public final class PromisesTest {
         fit();
         fitKinds();
         fitLimits();
+        fitChanges();
         begin();
         next();
         answer();
@@ -27,6 +28,8 @@ public final class PromisesTest {
         quit();
         may();
         gain();
+        gainOfEachStep();
+        gainOfParts();
         gainOfLargeWeights();
         done();
         now();
@@ -388,6 +391,36 @@ public final class PromisesTest {
         due("none at its limit", x.fit(), 2);
     }
 
+    private static void fitChanges() {
+        QuestionLadder x = ladder(111111, 111111, 111111);
+        x.set(0, 1, 2);
+        x.set(1, 1, 2);
+        x.set(0, 0, TEXT);
+        x.set(1, 0, TEXT);
+        due("texts of group 2", x.fit(), 4);
+        x.set(0, 0, FOE);
+        x.set(1, 0, FOE);
+        due("foes of group 2", x.fit(), 6);
+        x.share(0, 0, 0);
+        due("none of content 0", x.fit(), 1);
+        x.set(0, 2, 1);
+        x.set(2, 2, 2);
+        due("their contents have changed", x.fit(), 4);
+        x.share(2, 1, 1);
+        due("content 2 must come", x.fit(), 2);
+        x.share(1, 0, 0);
+        due("none of content 1", x.fit(), 1);
+        QuestionLadder y = ladder(111111, 111111, 111111);
+        y.set(0, 3, 1);
+        y.set(1, 3, 1);
+        y.begin();
+        y.answer(0, true);
+        y.answer(1, true);
+        y.answer(2, true);
+        y.end();
+        due("two at their limits", y.fit(), 2);
+    }
+
     // ---- promise 10
 
     private static void begin() {
@@ -403,6 +436,7 @@ public final class PromisesTest {
         x.answer(2, false);
         due("begin() again", x.begin(), STATE);
         due("two were asked", x.count(3), 2);
+        due("an empty bank", new QuestionLadder().begin(), 0);
         x.quit();
         x.set(1, 3, 1);
         x.length(1);
@@ -425,6 +459,7 @@ public final class PromisesTest {
         due("no sitting", x.next(), STATE);
         x.begin();
         due("of two as good the least number", x.next(), 1);
+        nextStandsAnywhere();
         x.answer(1, true);
         due("the greatest gain now", x.next(), 2);
         x.quit();
@@ -451,6 +486,18 @@ public final class PromisesTest {
         due("others may be asked", y.count(5), 2);
         due("but it is done", y.next(), NONE);
         due("an empty bank", emptySitting().next(), NONE);
+    }
+
+    private static void nextStandsAnywhere() {
+        QuestionLadder first = ladder(111444, 222222, 114444);
+        first.begin();
+        due("the first one", first.next(), 0);
+        QuestionLadder last = ladder(222222, 144444, 114444, 111444);
+        last.begin();
+        due("the last one", last.next(), 3);
+        QuestionLadder one = ladder(222222);
+        one.begin();
+        due("the only one", one.next(), 0);
     }
 
     private static QuestionLadder emptySitting() {
@@ -637,6 +684,7 @@ public final class PromisesTest {
         x.answer(3, true);
         mayAre(x, "the group has no room", 0, 0, 0, 0, 0);
         due("so it is spent", x.done(), 2);
+        textsOfTwo();
         QuestionLadder y = ladder(111111, 111111, 111111);
         y.set(0, 0, ANCHOR);
         y.length(2);
@@ -650,6 +698,24 @@ public final class PromisesTest {
         y.begin();
         y.answer(1, true);
         mayAre(y, "a place is kept for the share", 0, 0, 1);
+    }
+
+    private static void textsOfTwo() {
+        QuestionLadder x = ladder(111111, 111111, 111111);
+        for (int q = 0; q < 3; q += 2) {
+            x.set(q, 0, TEXT);
+            x.set(q, 1, 2);
+        }
+        x.begin();
+        x.answer(2, true);
+        mayAre(x, "its text comes first", 1, 0, 0);
+        due("answer(1) before it", x.answer(1, true), STATE);
+        x.answer(0, true);
+        mayAre(x, "then others", 0, 1, 0);
+        x.back();
+        x.back();
+        x.answer(0, true);
+        mayAre(x, "the other way round", 0, 0, 1);
     }
 
     private static void mayAre(QuestionLadder x, String what, int... want) {
@@ -681,6 +747,35 @@ public final class PromisesTest {
         x.answer(0, true);
         due("now another tells more", x.gain(2, 0), -1);
         due("also of one that was asked", x.gain(0, 3), 1);
+    }
+
+    private static void gainOfEachStep() {
+        for (int step = 0; step < 6; step++) {
+            QuestionLadder x = ladder(411111, 141111, 114111, 111411, 111141, 111114);
+            x.weight(step, 3);
+            x.begin();
+            int other = (step + 1) % 6;
+            due("the likeliest step tells most: " + step, x.gain(step, other), 1);
+            due("the other way", x.gain(other, step), -1);
+            due("next()", x.next(), step);
+            for (int q = 0; q < 6; q++) {
+                due("of the others none tells more", x.gain(q, other), q == step ? 1 : 0);
+            }
+        }
+    }
+
+    /** Gains 6 4/5, 6 29/56, 6 8/17, 5 25/221 and 5: most have the same whole part. */
+    private static void gainOfParts() {
+        QuestionLadder x = ladder(444111, 443111, 442111, 222223, 222222);
+        x.question(FRESH, 0, 0, 9, 444111);
+        x.begin();
+        for (int q = 0; q < 6; q++) {
+            for (int other = 0; other < 6; other++) {
+                // the fresh one has 5, as the last plain one
+                int want = Integer.compare(Math.min(other, 4), Math.min(q, 4));
+                due("gain(" + q + ", " + other + ")", x.gain(q, other), want);
+            }
+        }
     }
 
     private static void gainOfLargeWeights() {
@@ -734,11 +829,13 @@ public final class PromisesTest {
         due("odds without the anchor", x.done(), 0);
         x.answer(1, false);
         due("odds with the anchor", x.done(), 1);
+        due("spent with none to ask", emptySitting().done(), 2);
+        due("over with none to ask", emptySitting().end(), 0);
         QuestionLadder y = ladder(411111, 222222);
-        y.sure(4, 9);
+        due("4 of 9 is no odds to be sure of", y.sure(4, 9), BAD);
         y.begin();
         y.answer(0, true);
-        due("4 of 9 is not more than a half", y.done(), 0);
+        due("4 of 9 is below 9 of 10", y.done(), 0);
         QuestionLadder z = ladder(411111, 222222);
         z.weight(0, 3);
         z.sure(12, 17);
@@ -832,6 +929,7 @@ public final class PromisesTest {
         x.answer(4, false);
         reachAre(x, "where none may be asked", 0, 0, 0, 0);
         reachLater();
+        reachBothWays();
         QuestionLadder z = ladder(411111, 222222);
         z.set(1, 0, ANCHOR);
         begin(z, 3, 1, 1, 1, 1, 1);
@@ -840,26 +938,59 @@ public final class PromisesTest {
         reachAre(z, "but sure", 1, 1, 1, 1);
     }
 
+    // Turned round, 5 less each chance, wrong answers tell what right ones told before.
     private static void reachLater() {
-        QuestionLadder two = ladder(414111, 411314, 112234, 341111, 114444, 424124, 414423, 111144);
-        begin(two, 2, 1, 2, 1, 1, 1);
-        reachAre(two, "far off", 0, 0, 0, 0);
         QuestionLadder x = ladder(324142, 411111, 131411, 143114, 111441, 441411, 111431, 124341,
                 111443, 411441);
+        reachAfter(x, 5, true, "in two more", 0, 0, 1, 1);
+        QuestionLadder round = ladder(231413, 144444, 424144, 412441, 444114, 114144, 444124,
+                431214, 444112, 144114);
+        reachAfter(round, 5, false, "in two more, turned round", 0, 0, 1, 1);
+        x = ladder(112142, 134414, 421314, 442142, 111414, 413441, 143311);
+        reachInThree(x, true);
+        round = ladder(443413, 421141, 134241, 113413, 444141, 142114, 412244);
+        reachInThree(round, false);
+    }
+
+    private static void reachAfter(QuestionLadder x, int question, boolean right, String what,
+            int... want) {
         x.length(6);
         begin(x, 1, 3, 2, 1, 1, 1);
-        x.answer(5, true);
-        reachAre(x, "in two more", 0, 0, 1, 1);
-        QuestionLadder y = ladder(112142, 134414, 421314, 442142, 111414, 413441, 143311);
-        y.length(6);
-        begin(y, 3, 2, 1, 1, 1, 2);
-        y.answer(2, true);
-        reachAre(y, "in three more", 0, 0, 0, 1);
-        y.quit();
-        y.length(3);
-        begin(y, 3, 2, 1, 1, 1, 2);
-        y.answer(2, true);
-        reachAre(y, "without room for three more", 0, 0, 0, 0);
+        x.answer(question, right);
+        reachAre(x, what, want);
+    }
+
+    private static void reachInThree(QuestionLadder x, boolean right) {
+        x.length(6);
+        begin(x, 3, 2, 1, 1, 1, 2);
+        x.answer(2, right);
+        reachAre(x, "in three more", 0, 0, 0, 1);
+        x.quit();
+        x.length(3);
+        begin(x, 3, 2, 1, 1, 1, 2);
+        x.answer(2, right);
+        reachAre(x, "without room for three more", 0, 0, 0, 0);
+    }
+
+    private static void reachBothWays() {
+        // behind 12, 12, 1, 1, 1, 1: right 48 of 68, wrong 48 of 72
+        reachByOne(412222, 13, 20, 1);
+        reachByOne(412222, 7, 10, 0);
+        // right 48 of 72, wrong 48 of 68
+        reachByOne(143333, 13, 20, 1);
+        reachByOne(143333, 7, 10, 0);
+    }
+
+    private static void reachByOne(int chances, int a, int b, int want) {
+        for (int q = 0; q < 2; q++) {
+            QuestionLadder x = q == 0 ? ladder(chances, 441111) : ladder(441111, chances);
+            x.weight(0, 3);
+            x.weight(1, 3);
+            x.sure(a, b);
+            x.begin();
+            due("the first step", x.answer(1 - q, true), 1);
+            reachAre(x, "by " + chances + " at " + q, 0, want, want, want);
+        }
     }
 
     /** A sitting with these weights in which 11 of 20 are sure. */
