@@ -593,7 +593,8 @@ public final class QuestionLadder {
 
         int askableBehind(int asked) {
             int begun = restOfBegunTexts(asked);
-            int thinkable = begun != 0 ? Integer.lowestOneBit(begun) : ~asked;
+            // Of the texts that are left in a begun group, the least bit alone.
+            int thinkable = begun != 0 ? begun & -begun : ~asked;
             int askable = 0;
             for (int question = 0; question < size; question++) {
                 int bit = 1 << question;
