@@ -1,6 +1,9 @@
 /** Counts what is not as due, for the tests of this folder. */
 final class Check {
     private final String name;
+    private String sentence = "";
+    private int checksBeforeSentence = -1;
+    private int sentences = 0;
     private int wrong = 0;
     private int checks = 0;
 
@@ -8,11 +11,20 @@ final class Check {
         this.name = name;
     }
 
+    /** From here on the checks are for this sentence of the document. */
+    void says(String where, String words) {
+        endSentence();
+        sentence = where + " \"" + words + "\": ";
+        checksBeforeSentence = checks;
+        sentences++;
+    }
+
     void due(String what, long got, long want) {
         checks++;
         if (got != want) {
             wrong++;
-            System.out.println(name + ": " + what + " answered " + got + ", due is " + want);
+            System.out.println(name + ": " + sentence + what + " answered " + got
+                    + ", due is " + want);
         }
     }
 
@@ -21,9 +33,19 @@ final class Check {
     }
 
     void finish() {
-        System.out.println(name + ": " + checks + " checks, " + wrong + " not as due");
+        endSentence();
+        String of = sentences > 0 ? " of " + sentences + " sentences" : "";
+        System.out.println(name + ": " + checks + " checks" + of + ", " + wrong + " not as due");
         if (wrong > 0 || checks == 0) {
             System.exit(1);
+        }
+    }
+
+    // A sentence without a check would be told as held, and nobody looked.
+    private void endSentence() {
+        if (checks == checksBeforeSentence) {
+            wrong++;
+            System.out.println(name + ": " + sentence + "no check");
         }
     }
 }

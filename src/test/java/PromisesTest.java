@@ -43,31 +43,12 @@ public final class PromisesTest {
         check.due(what, got, want);
     }
 
-    /** Plain questions of content 0, limit 99, with these chances. */
     private static QuestionLadder ladder(int... chances) {
-        QuestionLadder x = new QuestionLadder();
-        for (int c : chances) {
-            x.question(PLAIN, 0, 0, 99, c);
-        }
-        return x;
+        return Ladders.plain(chances);
     }
 
-    /** All of a ladder that can be seen without changing it. */
     private static String look(QuestionLadder x) {
-        StringBuilder seen = new StringBuilder();
-        for (int what = 0; what < 9; what++) {
-            seen.append(x.count(what)).append(' ');
-        }
-        for (int q = 0; q < 10; q++) {
-            for (int what = 0; what < 11; what++) {
-                seen.append(x.about(q, what)).append(' ');
-            }
-            seen.append(x.may(q)).append(' ');
-        }
-        for (int i = 0; i < 6; i++) {
-            seen.append(x.now(i)).append(x.asked(i, 0)).append(x.asked(i, 1)).append(' ');
-        }
-        return seen.append(x.fit()).append(x.next()).append(x.done()).toString();
+        return Sight.asItIs(x);
     }
 
     private static void unchanged(String what, QuestionLadder x, String before) {
