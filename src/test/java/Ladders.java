@@ -12,7 +12,7 @@ final class Ladders {
     /** All in a sitting, for what is STATE there. */
     static final List<Supplier<QuestionLadder>> IN_SITTING = List.of(Ladders::emptyBegun,
             Ladders::threeBegun, Ladders::threeUnderWay, Ladders::tenBegun, Ladders::wholeLength,
-            Ladders::sureEarly);
+            Ladders::sureEarly, Ladders::atLimit);
 
     private Ladders() {
     }
@@ -119,6 +119,19 @@ final class Ladders {
         x.sure(12, 17);
         x.begin();
         x.answer(0, true);
+        return x;
+    }
+
+    /** Spent, and what was asked has been shown as often as its limit by that. */
+    static QuestionLadder atLimit() {
+        QuestionLadder x = plain(411111, 141111, 222222);
+        x.length(2);
+        x.set(0, 3, 1);
+        x.set(1, 0, ANCHOR);
+        x.set(1, 3, 1);
+        x.begin();
+        x.answer(0, true);
+        x.answer(1, false);
         return x;
     }
 

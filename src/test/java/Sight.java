@@ -15,7 +15,8 @@ final class Sight {
 
     /** All that can be seen without changing it. */
     static String asItIs(QuestionLadder x) {
-        StringBuilder seen = new StringBuilder(sitting(x));
+        StringBuilder seen = new StringBuilder();
+        // first what no sitting is asked for, before another look could hide a change
         for (int what = 0; what < 9; what++) {
             see(seen, x.count(what));
         }
@@ -23,6 +24,9 @@ final class Sight {
             for (int what = 0; what < 11; what++) {
                 see(seen, x.about(q, what));
             }
+        }
+        seen.append(sitting(x));
+        for (int q = 0; q < 10; q++) {
             for (int other = 0; other < 10; other++) {
                 see(seen, x.gain(q, other));
             }
