@@ -581,9 +581,8 @@ public final class QuestionLadder {
         }
 
         void spreadToParts() {
-            int total = total();
-            for (int set = total - 1; set >= 0; set--) {
-                partOfFit[set] = fits[set] || isPartOfBigger(set, total);
+            for (int set = total() - 1; set >= 0; set--) {
+                partOfFit[set] = fits[set] || isPartOfBigger(set);
             }
         }
 
@@ -614,9 +613,9 @@ public final class QuestionLadder {
         }
 
         // Bigger sets have bigger numbers, so going down they are known before their parts.
-        private boolean isPartOfBigger(int set, int total) {
-            for (int bit = 1; bit < total; bit <<= 1) {
-                if ((set & bit) == 0 && isPartOfFit(set | bit)) {
+        private boolean isPartOfBigger(int set) {
+            for (int question = 0; question < size; question++) {
+                if (!isIn(set, question) && isPartOfFit(set | 1 << question)) {
                     return true;
                 }
             }
